@@ -924,7 +924,9 @@ public final class WeddingRegister {
             if (hallAt(hour, registrar) != NONE) {
                 return REGISTRAR_TAKEN;
             }
-            if (isElsewhere(hour - 1, hall, registrar) || isElsewhere(hour + 1, hall, registrar)) {
+            int ahead = hallAt(hour - 1, registrar);
+            int behind = hallAt(hour + 1, registrar);
+            if ((ahead != NONE && ahead != hall) || (behind != NONE && behind != hall)) {
                 return REGISTRAR_ELSEWHERE;
             }
             return NOTHING;
@@ -933,11 +935,6 @@ public final class WeddingRegister {
         private boolean isTaken(int hour, int hall) {
             int row = hour - FIRST_HOUR;
             return row >= 0 && row < HOURS && (takenHalls[row] >> hall & 1) != 0;
-        }
-
-        private boolean isElsewhere(int hour, int hall, int registrar) {
-            int there = hallAt(hour, registrar);
-            return there != NONE && there != hall;
         }
 
         private int hallAt(int hour, int registrar) {

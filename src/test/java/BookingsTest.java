@@ -16,6 +16,8 @@ public final class BookingsTest {
         orderSlots();
         orderPassesBy();
         orderOnFeastsAndUnripe();
+        orderAsksBoth();
+        orderFillsHalls();
         orderWithoutPlace();
         Due.end("BookingsTest");
     }
@@ -279,6 +281,34 @@ public final class BookingsTest {
         x.judge(0, false);
         Due.is("dismissed", 1, x.order(3));
         Due.is("an hour later", 900, x.told(0, 4));
+    }
+
+    private static void orderAsksBoth() {
+        WeddingRegister x = new WeddingRegister();
+        x.person(10001, 0, NONE, NONE);
+        x.person(1010002, 0, NONE, NONE);
+        x.registrar(1);
+        x.post(0, 1);
+        x.law(1, 0, 10001, 0);
+        Due.is("the second one has no paper", 0, x.order(0));
+        x.withdraw(0);
+        x.post(1, 0);
+        Due.is("the first one has no paper", 0, x.order(0));
+        x.paper(1, 0, 0);
+        Due.is("both have what is wanted", 1, x.order(0));
+    }
+
+    private static void orderFillsHalls() {
+        WeddingRegister x = Office.of(12);
+        for (int i = 0; i < 6; i++) {
+            x.registrar(1);
+            x.post(2 * i, 2 * i + 1);
+        }
+        Due.is("six notices and six registrars", 6, x.order(0));
+        int[] wants = {800, 811, 822, 833, 900, 911};
+        for (int i = 0; i < 6; i++) {
+            Due.is("slot of " + i, wants[i], x.told(i, 4));
+        }
     }
 
     private static void orderWithoutPlace() {

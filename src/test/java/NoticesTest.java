@@ -8,6 +8,7 @@ public final class NoticesTest {
         postAtMost();
         withdraw();
         hung();
+        hungAheadOfFeasts();
         ripe();
         ripeNever();
         object();
@@ -104,6 +105,19 @@ public final class NoticesTest {
         }
         x.withdraw(0);
         Due.is("withdrawn ones too", 2, x.hung(0, 9));
+    }
+
+    private static void hungAheadOfFeasts() {
+        WeddingRegister x = Office.of(3);
+        x.go(5);
+        x.post(0, 1);
+        Due.is("the day behind that of posting is a feast", 0, x.hung(0, 7));
+        Due.is("the day behind the feast counts", 1, x.hung(0, 8));
+        x.go(2);
+        x.feast(8);
+        x.post(0, 2);
+        Due.is("a told feast behind that of posting", 0, x.hung(1, 9));
+        Due.is("the day behind the told feast counts", 1, x.hung(1, 10));
     }
 
     private static void ripe() {
