@@ -450,11 +450,12 @@ public final class WeddingRegister {
     }
 
     private static boolean isCousinBy(Person parent, Person other) {
-        return sharesParent(parent, other.father) || sharesParent(parent, other.mother);
+        return areSiblings(parent, other.father) || areSiblings(parent, other.mother);
     }
 
-    private static boolean sharesParent(Person a, Person b) {
-        return a != null && b != null && a.sharesParentWith(b);
+    private static boolean areSiblings(Person a, Person b) {
+        // One's father can be the other one's mother: nobody is kin of themself, though they share their parents.
+        return a != null && b != null && a != b && a.sharesParentWith(b);
     }
 
     // ---- bars to a couple ----

@@ -7,6 +7,7 @@ public final class EntriesTest {
         wedRefused();
         wedOnce();
         wedAsThingsAre();
+        wedByKin();
         part();
         correct();
         correctAtMost();
@@ -99,6 +100,28 @@ public final class EntriesTest {
         x.feast(2);
         x.go(1);
         Due.is("a feast told late leaves too few days", NONE, x.wed(1));
+    }
+
+    /** 3 and 4 have person 1 as a father and as a mother, which is no kin; 3 and 5 are cousins. */
+    private static void wedByKin() {
+        WeddingRegister x = Office.of(1);
+        x.person(10002, 0, 0, NONE);
+        x.person(10003, 0, 0, NONE);
+        x.person(10004, 0, 1, 0);
+        x.person(10005, 0, NONE, 1);
+        x.person(10006, 0, NONE, 2);
+        x.law(0, 0, 300001, 0);
+        x.registrar(1);
+        x.post(3, 5);
+        x.post(3, 4);
+        Due.is("cousins are passed by", 1, x.order(0));
+        Due.is("the cousins have no booking", NONE, x.told(0, 3));
+        Due.is("those who are no kin have one", 800, x.told(1, 4));
+        Due.is("in another slot too", 0, x.book(1, 0, 900));
+        Due.is("a booking doesn't ask for kin", 0, x.book(0, 0, 800));
+        Due.is("a wedding does", NONE, x.wed(0));
+        Due.is("no kin bars these", 0, x.wed(1));
+        Due.is("they are married", 4, x.married(3));
     }
 
     private static void part() {

@@ -15,6 +15,7 @@ public final class PersonsTest {
         days();
         kin();
         kinByParentsInBothParts();
+        kinByOneParent();
         againstInOrder();
         againstAge();
         againstKin();
@@ -246,7 +247,7 @@ public final class PersonsTest {
         kinBothWays(x, 2, 3, 0);
         x.person(1, 0, 2, NONE);
         x.person(1, 0, NONE, 2);
-        kinBothWays(x, 4, 5, 3);
+        kinBothWays(x, 4, 5, 0);
         x.person(1, 0, NONE, 1);
         x.person(1, 0, 2, 6);
         x.person(1, 0, NONE, 1);
@@ -254,6 +255,29 @@ public final class PersonsTest {
         kinBothWays(x, 1, 7, 2);
         x.person(1, 0, 8, 2);
         kinBothWays(x, 7, 9, 3);
+    }
+
+    /** Cousins have two parents who are kin: one who is the father of one and the mother of the other isn't two. */
+    private static void kinByOneParent() {
+        WeddingRegister x = Office.of(2);
+        x.person(1, 0, 0, 1);
+        x.person(1, 0, 2, 0);
+        x.person(1, 0, NONE, 2);
+        kinBothWays(x, 3, 4, 0);
+        x.law(0, 0, 300001, 0);
+        Due.is("nothing stands against them", 0, x.against(3, 4, 0));
+        Due.is("nor the other way", 0, x.against(4, 3, 0));
+        x.person(1, 0, 0, NONE);
+        x.person(1, 0, 5, 2);
+        kinBothWays(x, 3, 6, 3);
+        Due.is("cousins by another parent too", 3, x.against(3, 6, 0));
+        kinBothWays(x, 4, 6, 1);
+        kinBothWays(x, 4, 5, 2);
+        x.person(1, 0, 5, 1);
+        kinBothWays(x, 4, 7, 2);
+        x.person(1, 0, 7, NONE);
+        kinBothWays(x, 4, 8, 3);
+        kinBothWays(x, 3, 8, 3);
     }
 
     private static void againstInOrder() {

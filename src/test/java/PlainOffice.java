@@ -126,7 +126,7 @@ final class PlainOffice {
         if (second(a, b) || second(b, a)) {
             return 2;
         }
-        return parents(a).stream().anyMatch(p -> parents(b).stream().anyMatch(q -> common(p, q))) ? 3 : 0;
+        return parents(a).stream().anyMatch(p -> parents(b).stream().anyMatch(q -> areTwo(p, q) && common(p, q))) ? 3 : 0;
     }
 
     private boolean areTwo(int a, int b) {
