@@ -26,6 +26,21 @@ final class Office {
         return x;
     }
 
+    /** Persons 0 and 1 of one land and tongue with notice 0, and so many registrars who speak with both. */
+    static WeddingRegister withNotice(int registrars) {
+        WeddingRegister x = of(2);
+        for (int i = 0; i < registrars; i++) {
+            x.registrar(1);
+        }
+        x.post(0, 1);
+        return x;
+    }
+
+    /** Numbers that name none of so many that came. */
+    static int[] noneOf(int count) {
+        return new int[] {-1, -2, Integer.MIN_VALUE, count, count + 1, Integer.MAX_VALUE};
+    }
+
     static void wait(WeddingRegister x, int days) {
         for (int left = days; left > 0; left -= 400) {
             x.go(Math.min(left, 400));
