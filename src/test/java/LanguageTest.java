@@ -120,7 +120,8 @@ public final class LanguageTest {
         for (int i = 0; i < 20; i++) {
             x.post(i, i + 20);
         }
-        for (int i = 0; i < 200; i++) {
+        // 61 calls and these 450: an object is used for 512 at most.
+        for (int i = 0; i < 150; i++) {
             x.order(i % 6);
             x.ripe(i % 20);
             x.hung(i % 20, 20000);
